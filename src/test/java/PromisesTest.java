@@ -24,12 +24,15 @@ public final class PromisesTest {
         promise22Enrol();
         promise22EnrolPrefers();
         promise23EnrolAll();
+        promise23EnrolsInAscendingOrder();
         promise24Withdraw();
         promises25And26BestValue();
         promises27And28CanServe();
+        promises26And28InOtherOrder();
         promise29ServedCount();
         promise30MeanClassSize();
         promises31And32Moves();
+        promises31To33MoveIntoTheFirstBlock();
         promise33Join();
         promise33JoinPrefers();
         promise34Quit();
@@ -40,6 +43,7 @@ public final class PromisesTest {
         promise41DoClash();
         promise42ClashCount();
         promises43And44LeastClashes();
+        promise44InOtherOrder();
         promise45Arrange();
         promises46And47Line();
         promise48Type();
@@ -51,7 +55,9 @@ public final class PromisesTest {
         promise53Undo();
         promise53EachModification();
         promise53NotModifications();
+        promise53BringsBackChains();
         promises54And55Snapshot();
+        promise55BringsBackWishes();
         Check.end("PromisesTest");
     }
 
@@ -488,6 +494,20 @@ public final class PromisesTest {
         Check.due(0, "blockOf(2, 0)", () -> x.blockOf(2, 0));
     }
 
+    private static void promise23EnrolsInAscendingOrder() {
+        OptionBlockPlanner x = planner(sizes(1), 1, 3);
+        open(x, 0, 0);
+        wish(x, 2, 0);
+        wish(x, 0, 0);
+        wish(x, 1, 0);
+        Check.due(1, "enrolAll", x::enrolAll);
+        dueTimetable("0: 0", x, 0);
+        dueTimetable("1: -", x, 1);
+        x.withdraw(0);
+        Check.due(1, "enrolAll after withdraw", x::enrolAll);
+        dueTimetable("0: 0", x, 0);
+    }
+
     private static void promise24Withdraw() {
         OptionBlockPlanner x = planner(sizes(1, 1, 1), 4, 2);
         open(x, 0, 0);
@@ -594,6 +614,23 @@ public final class PromisesTest {
         Check.due(Check.INDEX, "canServeByCounting(3)", () -> x.canServeByCounting(3));
     }
 
+    /** The second versions ask for no call of the first ones before. */
+    private static void promises26And28InOtherOrder() {
+        OptionBlockPlanner x = planner(sizes(1, 1, 1), 2, 3);
+        open(x, 0, 0);
+        open(x, 1, 0, 1);
+        wish(x, 0, 0, 1);
+        wish(x, 1, 2, 1);
+        Check.due(6, "bestValueBySets(0)", () -> x.bestValueBySets(0));
+        Check.due(2, "bestValueBySets(1)", () -> x.bestValueBySets(1));
+        Check.due(0, "bestValueBySets(2)", () -> x.bestValueBySets(2));
+        Check.due(6, "bestValue(0)", () -> x.bestValue(0));
+        Check.due(true, "canServeByCounting(0)", () -> x.canServeByCounting(0));
+        Check.due(false, "canServeByCounting(1)", () -> x.canServeByCounting(1));
+        Check.due(true, "canServeByCounting(2)", () -> x.canServeByCounting(2));
+        Check.due(true, "canServe(0)", () -> x.canServe(0));
+    }
+
     private static void promise29ServedCount() {
         OptionBlockPlanner x = planner(sizes(3, 3), 2, 3);
         open(x, 0, 0);
@@ -627,6 +664,9 @@ public final class PromisesTest {
         Check.due(4.0 / 3.0, "meanClassSize of all", x::meanClassSize);
         x.closeClass(0, 1);
         Check.due(2.0, "meanClassSize of two classes", x::meanClassSize);
+        x.quit(0, 0);
+        x.closeClass(0, 0);
+        Check.due(3.0, "meanClassSize of one class", x::meanClassSize);
     }
 
     // ---- late changes
@@ -691,6 +731,20 @@ public final class PromisesTest {
         y.withdraw(1);
         y.closeClass(0, 0);
         dueMoves(Check.MISSING, y, 1, 0);
+    }
+
+    private static void promises31To33MoveIntoTheFirstBlock() {
+        OptionBlockPlanner x = planner(sizes(1, 9), 2, 2);
+        open(x, 0, 1);
+        open(x, 1, 0);
+        x.join(0, 0);
+        x.join(1, 1);
+        open(x, 0, 0);
+        dueMoves(1, x, 1, 0);
+        Check.due(1, "join by a move into block 0", () -> x.join(1, 0));
+        Check.due(0, "chainBlock(0)", () -> x.chainBlock(0));
+        dueTimetable("0: 0 -", x, 0);
+        dueTimetable("1: 1 0", x, 1);
     }
 
     private static void promise33Join() {
@@ -970,6 +1024,20 @@ public final class PromisesTest {
             }
         }
         return blocks.toString();
+    }
+
+    /** The second version asks for no call of the first one before. */
+    private static void promise44InOtherOrder() {
+        OptionBlockPlanner x = planner(sizes(1, 1), 1, 2);
+        wish(x, 0, 0, 1);
+        Check.due(1, "leastClashesByTrial", x::leastClashesByTrial);
+        wish(x, 1, 1, 0);
+        Check.due(2, "leastClashesByTrial of two pupils", x::leastClashesByTrial);
+        Check.due(2, "leastClashes", x::leastClashes);
+        x.undo();
+        Check.due(1, "leastClashesByTrial after undo", x::leastClashesByTrial);
+        x.setBlockCount(2);
+        Check.due(0, "leastClashesByTrial in two blocks", x::leastClashesByTrial);
     }
 
     private static void promise45Arrange() {
@@ -1322,6 +1390,35 @@ public final class PromisesTest {
         Check.due(Check.STATE, "undo", x::undo);
     }
 
+    private static void dueChainOfOneMove(int pupil, int block, OptionBlockPlanner x) {
+        Check.due(1, "chainMoves", x::chainMoves);
+        Check.due(pupil, "chainPupil(0)", () -> x.chainPupil(0));
+        Check.due(block, "chainBlock(0)", () -> x.chainBlock(0));
+    }
+
+    private static void promise53BringsBackChains() {
+        OptionBlockPlanner x = planner(sizes(1, 9, 1, 9), 3, 4);
+        open(x, 0, 0);
+        open(x, 1, 1);
+        open(x, 2, 0);
+        open(x, 3, 2);
+        for (int number = 0; number < 4; number++) {
+            x.join(number, number);
+        }
+        open(x, 0, 1);
+        open(x, 2, 2);
+        Check.due(1, "join(1, 0)", () -> x.join(1, 0));
+        dueChainOfOneMove(0, 1, x);
+        x.save();
+        Check.due(1, "join(3, 2)", () -> x.join(3, 2));
+        dueChainOfOneMove(2, 2, x);
+        x.undo();
+        dueChainOfOneMove(0, 1, x);
+        x.join(3, 2);
+        x.restore();
+        dueChainOfOneMove(0, 1, x);
+    }
+
     private static void promises54And55Snapshot() {
         OptionBlockPlanner x = planner(sizes(1, 2), 3, 2);
         open(x, 0, 0, 1);
@@ -1354,5 +1451,17 @@ public final class PromisesTest {
         Check.due(2, "pupilCount", x::pupilCount);
         Check.due(3, "restore of the newer one", x::restore);
         Check.due(3, "pupilCount", x::pupilCount);
+    }
+
+    private static void promise55BringsBackWishes() {
+        OptionBlockPlanner x = planner(sizes(1, 1, 1), 3, 1);
+        wish(x, 0, 0, 1);
+        x.save();
+        x.undo();
+        wish(x, 0, 2);
+        Check.due(2, "wishAt(0, 1)", () -> x.wishAt(0, 1));
+        x.restore();
+        Check.due(2, "wishCount(0) after restore", () -> x.wishCount(0));
+        Check.due(1, "wishAt(0, 1) after restore", () -> x.wishAt(0, 1));
     }
 }

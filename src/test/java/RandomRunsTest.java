@@ -262,13 +262,37 @@ public final class RandomRunsTest {
             case 2 -> same("enrolAll()", model::enrolAll, x::enrolAll);
             case 3 -> same("withdraw(" + pupil + ")", () -> model.withdraw(pupil), () -> x.withdraw(pupil));
             default -> {
-                same("bestValue(" + pupil + ")", () -> model.bestValue(pupil), () -> x.bestValue(pupil));
-                same("bestValueBySets(" + pupil + ")", () -> model.bestValue(pupil), () -> x.bestValueBySets(pupil));
-                same("canServe(" + pupil + ")", () -> model.canServe(pupil), () -> x.canServe(pupil));
-                same("canServeByCounting(" + pupil + ")",
-                        () -> model.canServe(pupil), () -> x.canServeByCounting(pupil));
+                boolean setsFirst = below(2) == 0;
+                value(pupil, setsFirst);
+                value(pupil, !setsFirst);
+                service(pupil, setsFirst);
+                service(pupil, !setsFirst);
                 same("servedCount()", model::servedCount, x::servedCount);
             }
+        }
+    }
+
+    private void value(int pupil, boolean bySets) {
+        if (bySets) {
+            same("bestValueBySets(" + pupil + ")", () -> model.bestValue(pupil), () -> x.bestValueBySets(pupil));
+        } else {
+            same("bestValue(" + pupil + ")", () -> model.bestValue(pupil), () -> x.bestValue(pupil));
+        }
+    }
+
+    private void service(int pupil, boolean byCounting) {
+        if (byCounting) {
+            same("canServeByCounting(" + pupil + ")", () -> model.canServe(pupil), () -> x.canServeByCounting(pupil));
+        } else {
+            same("canServe(" + pupil + ")", () -> model.canServe(pupil), () -> x.canServe(pupil));
+        }
+    }
+
+    private void leastClashes(boolean byTrial) {
+        if (byTrial) {
+            same("leastClashesByTrial()", model::leastClashes, x::leastClashesByTrial);
+        } else {
+            same("leastClashes()", model::leastClashes, x::leastClashes);
         }
     }
 
@@ -279,8 +303,9 @@ public final class RandomRunsTest {
                 same("withdraw(" + pupil + ")", () -> model.withdraw(number), () -> x.withdraw(number));
             }
         }
-        same("leastClashes()", model::leastClashes, x::leastClashes);
-        same("leastClashesByTrial()", model::leastClashes, x::leastClashesByTrial);
+        boolean trialFirst = below(2) == 0;
+        leastClashes(trialFirst);
+        leastClashes(!trialFirst);
         same("arrange()", model::arrange, x::arrange);
         for (int subject = 0; subject < model.subjectCount(); subject++) {
             int number = subject;
