@@ -13,8 +13,26 @@ final class Check {
 
     private static int checks;
     private static int wrong;
+    private static int sentences;
+    private static String sentence = "";
+    private static int checksBefore;
 
     private Check() {
+    }
+
+    /** What is checked from here on is what this sentence of the document says. */
+    static void sentence(String text) {
+        needChecks();
+        sentence = text;
+        sentences++;
+        checksBefore = checks;
+    }
+
+    private static void needChecks() {
+        if (sentences > 0 && checks == checksBefore) {
+            wrong++;
+            System.out.println("nothing is checked for: " + sentence);
+        }
     }
 
     static String answerOf(Callable<?> call) {
@@ -36,13 +54,16 @@ final class Check {
         }
         wrong++;
         if (wrong <= MOST_SHOWN) {
-            System.out.println(name + " answered " + got + ", due is " + want);
+            String where = sentence.isEmpty() ? "" : "\"" + sentence + "\" ";
+            System.out.println(where + name + " answered " + got + ", due is " + want);
         }
         return false;
     }
 
     static void end(String test) {
-        System.out.println(test + ": " + checks + " checks, " + wrong + " wrong");
+        needChecks();
+        String read = sentences == 0 ? "" : sentences + " sentences, ";
+        System.out.println(test + ": " + read + checks + " checks, " + wrong + " wrong");
         if (wrong > 0 || checks == 0) {
             System.exit(1);
         }

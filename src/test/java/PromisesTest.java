@@ -1,9 +1,7 @@
 import java.util.function.Consumer;
 
 /** For each promise: ordinary inputs, the edges that the document names, and wrong inputs. */
-public final class PromisesTest {
-    private static final int[] WRONG_NUMBERS = {-1, Integer.MIN_VALUE, Integer.MAX_VALUE, 1 << 30, 99};
-
+public final class PromisesTest extends Schools {
     private PromisesTest() {
     }
 
@@ -59,60 +57,6 @@ public final class PromisesTest {
         promises54And55Snapshot();
         promise55BringsBackWishes();
         Check.end("PromisesTest");
-    }
-
-    // ---- plans to begin with
-
-    private static OptionBlockPlanner planner(int[] sizes, int blocks, int pupils) {
-        OptionBlockPlanner x = new OptionBlockPlanner();
-        for (int size : sizes) {
-            x.addSubject(size);
-        }
-        x.setBlockCount(blocks);
-        for (int pupil = 0; pupil < pupils; pupil++) {
-            x.addPupil();
-        }
-        return x;
-    }
-
-    private static int[] sizes(int... sizes) {
-        return sizes;
-    }
-
-    private static void open(OptionBlockPlanner x, int subject, int... blocks) {
-        for (int block : blocks) {
-            x.openClass(subject, block);
-        }
-    }
-
-    private static void wish(OptionBlockPlanner x, int pupil, int... subjects) {
-        for (int subject : subjects) {
-            x.addWish(pupil, subject);
-        }
-    }
-
-    private static void type(OptionBlockPlanner x, String text) {
-        for (char character : text.toCharArray()) {
-            x.type(character);
-        }
-    }
-
-    private static String line(OptionBlockPlanner x, int pupil) {
-        int length = x.writeTimetable(pupil);
-        StringBuilder line = new StringBuilder();
-        for (int index = 0; index < length; index++) {
-            line.append(x.lineAt(index));
-        }
-        return line.toString();
-    }
-
-    private static String run(OptionBlockPlanner x, String text) {
-        type(x, text);
-        return Check.answerOf(() -> x.execute());
-    }
-
-    private static void dueTimetable(String want, OptionBlockPlanner x, int pupil) {
-        Check.due(want, "the timetable of " + pupil, () -> line(x, pupil));
     }
 
     private static void dueMalformed(int position, String text) {
@@ -677,30 +621,6 @@ public final class PromisesTest {
         Check.due(want, "movesByTrial" + of, () -> x.movesByTrial(pupil, subject));
     }
 
-    /**
-     * Pupils 0 to 3 in the classes of subject 0 in the blocks 0 to 3, one a class, so that only
-     * a chain over all blocks leads to the open place: each is kept by subjects 1 to 4 from all
-     * blocks but its own and the next one. Pupil 4 is free in block 0 alone.
-     */
-    private static OptionBlockPlanner longChain() {
-        OptionBlockPlanner x = planner(sizes(1, 9, 9, 9, 9), 4, 5);
-        for (int block = 0; block < 4; block++) {
-            x.openClass(0, block);
-            x.join(block, 0);
-        }
-        // Subject 1 + b lies in block b alone.
-        for (int block = 0; block < 4; block++) {
-            x.openClass(1 + block, block);
-        }
-        int[][] kept = {{2, 3}, {0, 3}, {0, 1}, {0, 1, 2}, {1, 2, 3}};
-        for (int pupil = 0; pupil < 5; pupil++) {
-            for (int block : kept[pupil]) {
-                x.join(pupil, 1 + block);
-            }
-        }
-        return x;
-    }
-
     private static void promises31And32Moves() {
         OptionBlockPlanner x = longChain();
         dueMoves(Check.MISSING, x, 4, 0);
@@ -1015,17 +935,6 @@ public final class PromisesTest {
         dueLeast(0, x);
     }
 
-    private static String openBlocks(OptionBlockPlanner x) {
-        StringBuilder blocks = new StringBuilder();
-        for (int subject = 0; subject < x.subjectCount(); subject++) {
-            blocks.append(subject == 0 ? "" : " ");
-            for (int block = 0; block < x.blockCount(); block++) {
-                blocks.append(x.isOpen(subject, block) ? "" + block : "");
-            }
-        }
-        return blocks.toString();
-    }
-
     /** The second version asks for no call of the first one before. */
     private static void promise44InOtherOrder() {
         OptionBlockPlanner x = planner(sizes(1, 1), 1, 2);
@@ -1299,24 +1208,6 @@ public final class PromisesTest {
         Check.due(0, "undo", x::undo);
         Check.due(2, "pupilCount", x::pupilCount);
         Check.due(0, "subjectCount", x::subjectCount);
-    }
-
-    /** What the face tells about the state that undo and restore bring back. */
-    private static String stateOf(OptionBlockPlanner x) {
-        StringBuilder state = new StringBuilder();
-        state.append(openBlocks(x)).append('|').append(x.blockCount());
-        for (int subject = 0; subject < x.subjectCount(); subject++) {
-            state.append(' ').append(x.sizeOf(subject));
-        }
-        for (int pupil = 0; pupil < x.pupilCount(); pupil++) {
-            state.append('|').append(line(x, pupil)).append(' ').append(x.reserveOf(pupil));
-            for (int rank = 0; rank < x.wishCount(pupil); rank++) {
-                state.append(' ').append(x.wishAt(pupil, rank));
-            }
-        }
-        state.append('|').append(Check.answerOf(x::chainMoves));
-        state.append(Check.answerOf(() -> x.chainPupil(0))).append(Check.answerOf(() -> x.chainBlock(0)));
-        return state.toString();
     }
 
     private static void dueUndone(OptionBlockPlanner x, String name, Consumer<OptionBlockPlanner> modification) {
