@@ -1056,6 +1056,9 @@ public final class OptionBlockPlanner {
 
     /** Searches for the arrangement with the fewest clashes. */
     private static final class Arrangements {
+        // Three wishes make three pairs, so no arrangement has as many clashes.
+        private static final int MORE_THAN_ANY = MOST_PUPILS * MOST_WISHES + 1;
+
         private final Plan plan;
         private final int[] common;
         private final int[] tried;
@@ -1075,7 +1078,7 @@ public final class OptionBlockPlanner {
         /** Finds the best arrangement, and answers the number of its clashes. */
         int findBest() {
             collectCommon();
-            fewest = Integer.MAX_VALUE;
+            fewest = MORE_THAN_ANY;
             settle(this, 0, 0);
             return fewest;
         }
@@ -1136,7 +1139,7 @@ public final class OptionBlockPlanner {
                 return clashes;
             }
             search.weigh(subject);
-            int least = Integer.MAX_VALUE;
+            int least = MORE_THAN_ANY;
             for (int block = 0; block < search.plan.blocks; block++) {
                 write(search.tried, subject, block);
                 int more = read(search.added, subject * MOST_BLOCKS + block);

@@ -472,11 +472,6 @@ public final class PromisesTest extends Schools {
         }
     }
 
-    private static void dueValue(int want, OptionBlockPlanner x, int pupil) {
-        Check.due(want, "bestValue(" + pupil + ")", () -> x.bestValue(pupil));
-        Check.due(want, "bestValueBySets(" + pupil + ")", () -> x.bestValueBySets(pupil));
-    }
-
     private static void promises25And26BestValue() {
         OptionBlockPlanner x = planner(sizes(1, 1, 1, 1), 2, 3);
         open(x, 0, 0);
@@ -614,12 +609,6 @@ public final class PromisesTest extends Schools {
     }
 
     // ---- late changes
-
-    private static void dueMoves(Object want, OptionBlockPlanner x, int pupil, int subject) {
-        String of = "(" + pupil + ", " + subject + ")";
-        Check.due(want, "movesFor" + of, () -> x.movesFor(pupil, subject));
-        Check.due(want, "movesByTrial" + of, () -> x.movesByTrial(pupil, subject));
-    }
 
     private static void promises31And32Moves() {
         OptionBlockPlanner x = longChain();
@@ -904,11 +893,6 @@ public final class PromisesTest extends Schools {
         Check.due(1, "clashCount", x::clashCount);
         x.openClass(0, 0);
         Check.due(0, "clashCount", x::clashCount);
-    }
-
-    private static void dueLeast(int want, OptionBlockPlanner x) {
-        Check.due(want, "leastClashes", x::leastClashes);
-        Check.due(want, "leastClashesByTrial", x::leastClashesByTrial);
     }
 
     private static void promises43And44LeastClashes() {

@@ -8,7 +8,8 @@ public final class RandomRunsTest {
     private static final int RUNS = 5000;
     // What later calls of one object answer is free.
     private static final int CALLS = 512;
-    private static final String[] WORDS = {"subject 2", "pupil", "blocks 3", "arrange", "x", "pupil;", " ", "enrol 123"};
+    private static final String[] WORDS = {"subject 2", "pupil", "blocks 3", "arrange", "x", "pupil;", " ",
+        "enrol 123"};
 
     private final Model model = new Model();
     private final OptionBlockPlanner x = new OptionBlockPlanner();

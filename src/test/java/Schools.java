@@ -161,4 +161,96 @@ abstract class Schools {
         }
         return numbers;
     }
+
+    static void dueValue(int want, OptionBlockPlanner x, int pupil) {
+        due(want, "bestValue(" + pupil + ")", () -> x.bestValue(pupil));
+        due(want, "bestValueBySets(" + pupil + ")", () -> x.bestValueBySets(pupil));
+    }
+
+    static void dueMoves(Object want, OptionBlockPlanner x, int pupil, int subject) {
+        String of = "(" + pupil + ", " + subject + ")";
+        due(want, "movesFor" + of, () -> x.movesFor(pupil, subject));
+        due(want, "movesByTrial" + of, () -> x.movesByTrial(pupil, subject));
+    }
+
+    static void dueLeast(int want, OptionBlockPlanner x) {
+        due(want, "leastClashes", x::leastClashes);
+        due(want, "leastClashesByTrial", x::leastClashesByTrial);
+    }
+
+    /**
+     * Pupils in the classes of subject 0 in all blocks but the last one, one a class, each of them free in the
+     * next block alone; and a last pupil who is free in block 0 alone.
+     */
+    static OptionBlockPlanner chainOf(int moves) {
+        int[] sizes = {1, 9, 9, 9, 9};
+        OptionBlockPlanner x = planner(sizes, moves + 1, moves + 1);
+        for (int block : upTo(moves + 1)) {
+            x.openClass(1 + block, block);
+        }
+        for (int pupil : upTo(moves)) {
+            x.openClass(0, pupil);
+            x.join(pupil, 0);
+        }
+        x.openClass(0, moves);
+        for (int pupil : upTo(moves + 1)) {
+            for (int block : upTo(moves + 1)) {
+                boolean open = pupil < moves ? block == pupil || block == pupil + 1 : block == 0;
+                if (!open) {
+                    x.join(pupil, 1 + block);
+                }
+            }
+        }
+        return x;
+    }
+
+    /** What is checked from here on is what this sentence of this promise says. */
+    static void sentence(int promise, String text) {
+        Check.sentence("Promise " + promise + ": " + text);
+    }
+
+    /** 3 subjects, 3 blocks and 4 pupils, and one of each behind them that was undone. */
+    static OptionBlockPlanner begun() {
+        OptionBlockPlanner x = planner(sizes(1, 2, 9), 3, 4);
+        x.addSubject(5);
+        x.setBlockCount(4);
+        x.addPupil();
+        x.openClass(3, 3);
+        x.addWish(4, 3);
+        x.join(4, 3);
+        for (int undone = 0; undone < 6; undone++) {
+            x.undo();
+        }
+        return x;
+    }
+
+    /** A call with a number of a subject, a block or a pupil. */
+    interface Call {
+        Object with(OptionBlockPlanner x, int number);
+    }
+
+    /** The lowest and the highest of so many numbers exist; those beside them and far from them do not. */
+    static void dueIndex(int count, String name, Call call) {
+        // Some of them wrap around to small numbers when they are doubled, tripled, and so on.
+        for (int number : new int[] {-1, -2, count, count + 1, 31, 32, 33, 1431655766, 1 << 29, 1 << 30, 1 << 31,
+            (1 << 30) + 1, Integer.MAX_VALUE, Integer.MIN_VALUE + 1}) {
+            due(Check.INDEX, name + " with the number " + number, () -> call.with(begun(), number));
+        }
+        for (int number : new int[] {0, count - 1}) {
+            String answer = Check.answerOf(() -> call.with(begun(), number));
+            due(false, "whether " + name + " misses the number " + number, () -> answer.equals(Check.INDEX));
+        }
+    }
+
+    static void dueSubjectIndex(String name, Call call) {
+        dueIndex(3, name + " of a subject", call);
+    }
+
+    static void dueBlockIndex(String name, Call call) {
+        dueIndex(3, name + " of a block", call);
+    }
+
+    static void duePupilIndex(String name, Call call) {
+        dueIndex(4, name + " of a pupil", call);
+    }
 }

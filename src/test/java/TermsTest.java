@@ -339,11 +339,6 @@ public final class TermsTest extends Schools {
         x.undo();
     }
 
-    private static void dueValue(int want, OptionBlockPlanner x, int pupil) {
-        due(want, "bestValue(" + pupil + ")", () -> x.bestValue(pupil));
-        due(want, "bestValueBySets(" + pupil + ")", () -> x.bestValueBySets(pupil));
-    }
-
     private static void placementsHaveRoom() {
         Check.sentence("The assigned blocks are different, and in each of them the class of the subject has room; "
                 + "the pupil itself is not counted as a pupil of any class for this.");
@@ -364,6 +359,15 @@ public final class TermsTest extends Schools {
         x.join(1, 0);
         dueValue(2, x, 0);
         dueValue(4, x, 1);
+        for (int other : new int[] {0, 2}) {
+            OptionBlockPlanner y = planner(sizes(1, 1), 2, 3);
+            open(y, 0, 0);
+            y.join(other, 0);
+            y.addWish(1, 1);
+            y.setReserve(1, 0);
+            due(0, "enrol(1) with its reserve full", () -> y.enrol(1));
+            dueTimetable("1: - -", y, 1);
+        }
     }
 
     private static void reserveForMissingWish() {
@@ -462,12 +466,6 @@ public final class TermsTest extends Schools {
 
     // ---- chains
 
-    private static void dueMoves(Object want, OptionBlockPlanner x, int pupil, int subject) {
-        String of = "(" + pupil + ", " + subject + ")";
-        due(want, "movesFor" + of, () -> x.movesFor(pupil, subject));
-        due(want, "movesByTrial" + of, () -> x.movesByTrial(pupil, subject));
-    }
-
     private static void moves() {
         Check.sentence("A move takes a pupil from its class of a subject in one block to the class of the same "
                 + "subject in another block; this class has to be open, and the pupil has to be free in that block.");
@@ -486,32 +484,17 @@ public final class TermsTest extends Schools {
         due(1, "join(1, 0)", () -> x.join(1, 0));
         dueTimetable("0: - 0", x, 0);
         dueTimetable("1: 0 1", x, 1);
-    }
-
-    /**
-     * Pupils in the classes of subject 0 in all blocks but the last one, one a class, each of them free in the
-     * next block alone; and a last pupil who is free in block 0 alone.
-     */
-    private static OptionBlockPlanner chainOf(int moves) {
-        int[] sizes = {1, 9, 9, 9, 9};
-        OptionBlockPlanner x = planner(sizes, moves + 1, moves + 1);
-        for (int block : upTo(moves + 1)) {
-            x.openClass(1 + block, block);
-        }
-        for (int pupil : upTo(moves)) {
-            x.openClass(0, pupil);
-            x.join(pupil, 0);
-        }
-        x.openClass(0, moves);
-        for (int pupil : upTo(moves + 1)) {
-            for (int block : upTo(moves + 1)) {
-                boolean open = pupil < moves ? block == pupil || block == pupil + 1 : block == 0;
-                if (!open) {
-                    x.join(pupil, 1 + block);
-                }
-            }
-        }
-        return x;
+        // The other way round, into block 0.
+        OptionBlockPlanner y = planner(sizes(1, 9), 2, 2);
+        open(y, 0, 1);
+        open(y, 1, 0);
+        y.join(0, 0);
+        y.join(1, 1);
+        open(y, 0, 0);
+        dueMoves(1, y, 1, 0);
+        due(1, "join(1, 0)", () -> y.join(1, 0));
+        dueTimetable("0: 0 -", y, 0);
+        dueTimetable("1: 1 0", y, 1);
     }
 
     private static void lengthsOfChains() {
@@ -783,11 +766,6 @@ public final class TermsTest extends Schools {
         }
     }
 
-    private static void dueLeast(int want, OptionBlockPlanner x) {
-        due(want, "leastClashes", x::leastClashes);
-        due(want, "leastClashesByTrial", x::leastClashesByTrial);
-    }
-
     private static void sharedBlocks() {
         Check.sentence("An arrangement assigns one block to each subject; several subjects can have the same block.");
         OptionBlockPlanner x = planner(sizes(1, 1, 1, 1, 1, 1, 1), 1, 1);
@@ -952,6 +930,11 @@ public final class TermsTest extends Schools {
         due("0 1", "the arrangement", () -> openBlocks(y));
         due(1, "execute of 'enrol 11'", () -> run(y, "enrol 11"));
         dueTimetable("11: 0 1", y, 11);
+        OptionBlockPlanner z = commanded();
+        due(4, "execute of four commands", () -> run(z, "change 2 0 1;change 0 1 0;wish 1 2;quit 2 1"));
+        dueTimetable("0: 0 - -", z, 0);
+        dueTimetable("2: - - -", z, 2);
+        due(2, "wishAt(1, 1)", () -> z.wishAt(1, 1));
     }
 
     private static void dueMalformed(int position, String text) {
@@ -1163,6 +1146,16 @@ public final class TermsTest extends Schools {
         x.undo();
         x.undo();
         due(before, "the state after undo of a size and a timetable", () -> stateOf(x));
+        OptionBlockPlanner y = planner(sizes(1, 1, 1), 3, 1);
+        wish(y, 0, 0, 1);
+        y.save();
+        y.undo();
+        y.addWish(0, 2);
+        y.undo();
+        due(Check.MISSING, "wishAt(0, 1) after undo", () -> y.wishAt(0, 1));
+        y.addWish(0, 2);
+        y.restore();
+        due(1, "wishAt(0, 1) after restore", () -> y.wishAt(0, 1));
     }
 
     private static void lastChainIsUndone() {
@@ -1187,6 +1180,37 @@ public final class TermsTest extends Schools {
         y.join(0, 0);
         y.restore();
         due(Check.MISSING, "chainMoves after restore of what was before it", y::chainMoves);
+        OptionBlockPlanner z = twoChains();
+        z.join(1, 0);
+        z.save();
+        z.join(3, 2);
+        dueLastChain(2, 2, z);
+        z.undo();
+        dueLastChain(0, 1, z);
+        z.join(3, 2);
+        z.restore();
+        dueLastChain(0, 1, z);
+    }
+
+    /** Pupils 1 and 3 can join the subjects 0 and 2 by moves of other pupils into different blocks. */
+    private static OptionBlockPlanner twoChains() {
+        OptionBlockPlanner x = planner(sizes(1, 9, 1, 9), 3, 4);
+        open(x, 0, 0);
+        open(x, 1, 1);
+        open(x, 2, 0);
+        open(x, 3, 2);
+        for (int number : upTo(4)) {
+            x.join(number, number);
+        }
+        open(x, 0, 1);
+        open(x, 2, 2);
+        return x;
+    }
+
+    private static void dueLastChain(int pupil, int block, OptionBlockPlanner x) {
+        due(1, "chainMoves", x::chainMoves);
+        due(pupil, "chainPupil(0)", () -> x.chainPupil(0));
+        due(block, "chainBlock(0)", () -> x.chainBlock(0));
     }
 
     // ---- exceptions
