@@ -43,6 +43,7 @@ public final class PromisesTest extends Schools {
         promises43And44LeastClashes();
         promise44InOtherOrder();
         promise45Arrange();
+        promises43To45GreatestClashes();
         promises46And47Line();
         promise48Type();
         promise49Execute();
@@ -961,6 +962,29 @@ public final class PromisesTest extends Schools {
         OptionBlockPlanner none = new OptionBlockPlanner();
         Check.due(0, "arrange without subjects", none::arrange);
         Check.due(0, "undo of arrange", none::undo);
+    }
+
+    /** All pupils have the same three wishes, and these have to share the only block. */
+    private static void promises43To45GreatestClashes() {
+        OptionBlockPlanner x = planner(sizes(1, 1, 1, 1, 1, 1, 1), 4, 12);
+        for (int pupil = 0; pupil < 12; pupil++) {
+            wish(x, pupil, 4, 5, 6);
+        }
+        dueLeast(0, x);
+        Check.due("0 0 0 0 0 1 2", "the arrangement in four blocks", () -> x.arrange() == 0 ? openBlocks(x) : "");
+        for (int subject : new int[] {5, 6}) {
+            x.closeClass(subject, subject - 4);
+        }
+        x.setBlockCount(2);
+        dueLeast(12, x);
+        Check.due(12, "arrange in two blocks", x::arrange);
+        Check.due("0 0 0 0 0 0 1", "the arrangement in two blocks", () -> openBlocks(x));
+        x.closeClass(6, 1);
+        x.setBlockCount(1);
+        dueLeast(36, x);
+        Check.due(36, "arrange in one block", x::arrange);
+        Check.due("0 0 0 0 0 0 0", "the arrangement in one block", () -> openBlocks(x));
+        Check.due(36, "clashCount", x::clashCount);
     }
 
     // ---- line and programs
